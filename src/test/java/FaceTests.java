@@ -17,11 +17,14 @@ public final class FaceTests {
             "int pass(int)", "int of(int,int)", "int frame(int,int)", "int row(int)", "int count(int)",
             "int why(int)", "int takenIn(int)", "int would(int,int)", "int bestCount(int,int,int)", "int put(long)",
             "int wipe()", "int fault()", "int carryOut()", "int undo()", "int save(int)", "int restore(int)");
+    private static final Set<String> PUBLIC_NAMES = Set.of("set", "bounds", "come", "mask", "call", "pass", "of",
+            "frame", "row", "count", "why", "takenIn", "would", "bestCount", "put", "wipe", "fault", "carryOut",
+            "undo", "save", "restore");
     private static final Set<String> CONSTANTS = Set.of(
             "NO_SUCH=-1", "BAD_VALUE=-2", "BAD_TEXT=-3", "TOO_MANY=-4", "NOT_POSSIBLE=-5", "NONE=-6",
             "RING=0", "BUDGET=1", "FOLLOW=2", "COST=3");
     private static final String BANNED = "throw|throws|try|catch|finally|synchronized|assert|import|package|native|"
-            + "volatile|transient|protected|default ->|->|::|hashCode|toString|equals|System\\.(?!arraycopy)\\w+|"
+            + "volatile|transient|protected|->|::|hashCode|toString|equals|System\\.(?!arraycopy)\\w+|"
             + "\\w+Exact|Thread|Object|var|yield";
 
     private FaceTests() {
@@ -43,11 +46,9 @@ public final class FaceTests {
         Due.is("constructors", type.getDeclaredConstructors().length, 1);
         Due.is("public constructors without parameters", type.getConstructors()[0].getParameterCount(), 0);
         Set<String> found = new TreeSet<>();
-        Set<String> names = new TreeSet<>();
         for (Method method : type.getDeclaredMethods()) {
             if (!Modifier.isPrivate(method.getModifiers())) {
                 found.add(shape(method));
-                names.add(method.getName());
                 Due.holds(method + " is public", Modifier.isPublic(method.getModifiers()));
                 Due.holds(method + " is of the object", !Modifier.isStatic(method.getModifiers()));
             }
@@ -55,7 +56,7 @@ public final class FaceTests {
         Due.holds("methods: " + found, found.equals(METHODS));
         for (Method method : type.getDeclaredMethods()) {
             Due.holds(method + " has a name of its own",
-                    !Modifier.isPrivate(method.getModifiers()) || !names.contains(method.getName()));
+                    !Modifier.isPrivate(method.getModifiers()) || !PUBLIC_NAMES.contains(method.getName()));
         }
     }
 
@@ -76,7 +77,8 @@ public final class FaceTests {
                 Due.holds(field + " is final", Modifier.isFinal(modifiers));
             }
             if (!Modifier.isPrivate(modifiers)) {
-                Due.holds(field + " is a public constant", Modifier.isPublic(modifiers) && Modifier.isStatic(modifiers));
+                Due.holds(field + " is public", Modifier.isPublic(modifiers));
+                Due.holds(field + " is static", Modifier.isStatic(modifiers));
                 Due.holds(field + " is an int", field.getType() == int.class);
                 found.add(field.getName() + "=" + field.getInt(null));
             }
@@ -99,6 +101,9 @@ public final class FaceTests {
                         || Modifier.isFinal(field.getModifiers()));
             }
             Due.holds(type + " has some twenty fields at most", fields <= 20);
+            for (Method method : type.getDeclaredMethods()) {
+                Due.holds(method + " has a name of its own", !PUBLIC_NAMES.contains(method.getName()));
+            }
         }
         Due.holds("some twelve classes at most", classes <= 12);
     }

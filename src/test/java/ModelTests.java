@@ -78,7 +78,7 @@ public final class ModelTests {
             case 4: same(kind, real.call(queue), model.call(queue), queue); return;
             case 5: movePass(wild, run); return;
             case 14: movePut(wild); return;
-            case 17: text = model.fault() == Model.NONE ? "" : text; same(kind, real.carryOut(), model.carryOut()); return;
+            case 17: moveCarryOut(); return;
             case 15: text = ""; same(kind, real.wipe(), model.wipe()); return;
             case 16: same(kind, real.fault(), model.fault()); return;
             case 18: same(kind, real.undo(), model.undo()); return;
@@ -117,6 +117,11 @@ public final class ModelTests {
         } else {
             same(kind, real.restore(slot), model.restore(slot), slot);
         }
+    }
+
+    private static void moveCarryOut() {
+        text = model.fault() == Model.NONE ? "" : text;
+        same(17, real.carryOut(), model.carryOut());
     }
 
     private static void movePut(boolean wild) {
