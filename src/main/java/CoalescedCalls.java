@@ -594,7 +594,8 @@ public final class CoalescedCalls {
             taken++;
             sinceCall++;
             waited += ticks;
-            longest = Math.max(longest, ticks);
+            // NONE is below every wait
+            longest = ticks > longest ? ticks : longest;
         }
 
         private void becomeIdle(boolean follows) {

@@ -12,8 +12,12 @@ final class Due {
     }
 
     static void is(String call, long got, long want) {
+        same(call, Long.toString(got), Long.toString(want));
+    }
+
+    static void same(String call, String got, String want) {
         checks++;
-        if (got != want) {
+        if (!got.equals(want)) {
             wrong++;
             // a broken class would otherwise drown the first faults
             if (wrong <= 60) {
@@ -24,6 +28,10 @@ final class Due {
 
     static void holds(String what, boolean so) {
         is(what, so ? 1 : 0, 1);
+    }
+
+    static int checks() {
+        return checks;
     }
 
     static void end() {

@@ -45,87 +45,14 @@ public final class PromiseTests {
         Due.end();
     }
 
-    // ---- help
-
-    private static CoalescedCalls card() {
-        return new CoalescedCalls();
-    }
-
-    /** So many frames of one flow come. */
-    private static void come(CoalescedCalls x, int flow, int times) {
-        for (int n = 0; n < times; n++) {
-            x.come(flow);
-        }
-    }
-
-    private static long code(String text) {
-        long code = 0;
-        for (int n = 0; n < text.length(); n++) {
-            code = code << 8 | text.charAt(n);
-        }
-        return code;
-    }
-
-    private static void put(CoalescedCalls x, String text) {
-        for (int n = 0; n < text.length(); n += 8) {
-            x.put(code(text.substring(n, Math.min(n + 8, text.length()))));
-        }
-    }
-
-    private static void countsAre(CoalescedCalls x, int... want) {
-        for (int what = 0; what < want.length; what++) {
-            Due.is("count(" + what + ")", x.count(what), want[what]);
-        }
-    }
-
-    private static void queueIs(CoalescedCalls x, int queue, int... want) {
-        for (int what = 0; what < want.length; what++) {
-            Due.is("of(" + queue + ", " + what + ")", x.of(queue, what), want[what]);
-        }
-    }
-
-    /** All that can be read of a card in some 75 calls, but for the pad and the history. */
-    private static String look(CoalescedCalls x) {
-        StringBuilder text = new StringBuilder();
-        for (int what = 0; what <= 10; what++) {
-            text.append(x.count(what)).append(' ');
-        }
-        for (int queue = 0; queue < 3; queue++) {
-            for (int what = 0; what <= 12; what++) {
-                text.append(x.of(queue, what)).append(' ');
-            }
-            text.append(x.row(queue)).append(' ');
-        }
-        int frames = Math.min(x.count(1), 5);
-        for (int frame = 0; frame < frames; frame++) {
-            for (int what = 0; what <= 3; what++) {
-                text.append(x.frame(frame, what)).append(' ');
-            }
-        }
-        return text.toString();
-    }
-
-    /** A card in the midst of things: frames taken, waiting and dropped, two queues in the row, one masked. */
-    private static CoalescedCalls busy() {
-        CoalescedCalls x = card();
-        put(x, "q0=2,20;f0*3;f1;t3;f2;m2");
-        x.carryOut();
-        x.set(RING, 3);
-        put(x, "f1*5;f3*2");
-        x.carryOut();
-        x.call(1);
-        x.call(0);
-        return x;
-    }
-
     // ---- promise 1
 
     private static void newObject() {
         Due.part("1: a new object");
-        CoalescedCalls x = card();
-        countsAre(x, 0, 0, 0, 0, 0, 0, 0, 16, 4, 0, 6, 0, 0);
+        Card x = new Card();
+        x.countsAre(0, 0, 0, 0, 0, 0, 0, 16, 4, 0, 6, 0, 0);
         for (int queue = 0; queue < 3; queue++) {
-            queueIs(x, queue, 4, 10, 4, 0, 0, 0, 0, 0, 0, 0, NONE, 0, NONE);
+            x.queueIs(queue, 4, 10, 4, 0, 0, 0, 0, 0, 0, 0, NONE, 0, NONE);
             Due.is("why", x.why(queue), 3);
         }
         Due.is("row(0)", x.row(0), NO_SUCH);
@@ -136,10 +63,10 @@ public final class PromiseTests {
         Due.is("undo()", x.undo(), NOT_POSSIBLE);
         Due.is("restore(0)", x.restore(0), NOT_POSSIBLE);
         Due.is("restore(1)", x.restore(1), NOT_POSSIBLE);
-        CoalescedCalls y = card();
+        Card y = new Card();
         x.come(0);
         x.set(COST, 9);
-        countsAre(y, 0, 0, 0, 0, 0, 0, 0, 16, 4, 0, 6, 0, 0);
+        y.countsAre(0, 0, 0, 0, 0, 0, 0, 16, 4, 0, 6, 0, 0);
         Due.is("a frame of another object", y.frame(0, 0), NO_SUCH);
     }
 
@@ -151,12 +78,12 @@ public final class PromiseTests {
         int[] least = {1, 1, 0, 0};
         int[] most = {32, 16, 1, 50};
         for (int setting = 0; setting < 4; setting++) {
-            CoalescedCalls x = card();
+            Card x = new Card();
             Due.is("below the range", x.set(setting, least[setting] - 1), BAD_VALUE);
             Due.is("above the range", x.set(setting, most[setting] + 1), BAD_VALUE);
             Due.is("far below", x.set(setting, LEAST), BAD_VALUE);
             Due.is("far above", x.set(setting, MOST), BAD_VALUE);
-            countsAre(x, 0, 0, 0, 0, 0, 0, 0, 16, 4, 0, 6, 0, 0);
+            x.countsAre(0, 0, 0, 0, 0, 0, 0, 16, 4, 0, 6, 0, 0);
             Due.is("the most", x.set(setting, most[setting]), first[setting]);
             Due.is("the least", x.set(setting, least[setting]), most[setting]);
             Due.is("the same", x.set(setting, least[setting]), least[setting]);
@@ -165,7 +92,7 @@ public final class PromiseTests {
             }
             Due.is("changes", x.count(12), 3);
         }
-        CoalescedCalls x = card();
+        Card x = new Card();
         for (int setting : new int[] {-1, 4, LEAST, MOST}) {
             Due.is("no such setting", x.set(setting, 1), BAD_VALUE);
         }
@@ -174,13 +101,13 @@ public final class PromiseTests {
 
     private static void setRing() {
         Due.part("2: set, the ring");
-        CoalescedCalls x = card();
+        Card x = new Card();
         x.mask(0);
-        come(x, 0, 17);
+        x.come(0, 17);
         Due.is("in the ring", x.of(0, 3), 16);
         Due.is("dropped", x.of(0, 8), 1);
         x.set(RING, 32);
-        come(x, 0, 17);
+        x.come(0, 17);
         Due.is("in the larger ring", x.of(0, 3), 32);
         Due.is("dropped", x.of(0, 8), 2);
         x.set(RING, 2);
@@ -197,8 +124,8 @@ public final class PromiseTests {
 
     private static void setBudget() {
         Due.part("2: set, the budget");
-        CoalescedCalls x = card();
-        come(x, 0, 16);
+        Card x = new Card();
+        x.come(0, 16);
         x.set(BUDGET, 3);
         x.pass(1);
         Due.is("three are taken", x.pass(1), 3);
@@ -212,15 +139,15 @@ public final class PromiseTests {
 
     private static void bounds() {
         Due.part("3: bounds");
-        CoalescedCalls x = card();
+        Card x = new Card();
         Due.is("bounds(1, 7, 33)", x.bounds(1, 7, 33), 4);
-        queueIs(x, 1, 7, 33, 7);
-        queueIs(x, 0, 4, 10, 4);
-        queueIs(x, 2, 4, 10, 4);
+        x.queueIs(1, 7, 33, 7);
+        x.queueIs(0, 4, 10, 4);
+        x.queueIs(2, 4, 10, 4);
         Due.is("the least", x.bounds(1, 1, 1), 7);
-        queueIs(x, 1, 1, 1, 1);
+        x.queueIs(1, 1, 1, 1);
         Due.is("the most", x.bounds(1, 32, 99), 1);
-        queueIs(x, 1, 32, 99, 32);
+        x.queueIs(1, 32, 99, 32);
         Due.is("the same", x.bounds(1, 32, 99), 32);
         Due.is("changes", x.count(12), 4);
         for (int queue : NO_QUEUES) {
@@ -233,19 +160,19 @@ public final class PromiseTests {
         for (int wait : new int[] {0, 100, -1, LEAST, MOST}) {
             Due.is("wait", x.bounds(1, 5, wait), BAD_VALUE);
         }
-        queueIs(x, 1, 32, 99, 32);
+        x.queueIs(1, 32, 99, 32);
         Due.is("errors are no changes", x.count(12), 4);
         Due.is("queue 0", x.bounds(0, 2, 3), 4);
         Due.is("queue 2", x.bounds(2, 5, 6), 4);
-        queueIs(x, 0, 2, 3, 2);
-        queueIs(x, 2, 5, 6, 5);
+        x.queueIs(0, 2, 3, 2);
+        x.queueIs(2, 5, 6, 5);
     }
 
     // ---- promise 4
 
     private static void come() {
         Due.part("4: come");
-        CoalescedCalls x = card();
+        Card x = new Card();
         x.pass(5);
         Due.is("come(0)", x.come(0), 0);
         Due.is("come(99)", x.come(99), 1);
@@ -278,8 +205,8 @@ public final class PromiseTests {
 
     private static void comeTooMany() {
         Due.part("4: come, too many");
-        CoalescedCalls x = card();
-        come(x, 1, 399);
+        Card x = new Card();
+        x.come(1, 399);
         Due.is("the last one", x.come(2), 399);
         Due.is("one more", x.come(0), TOO_MANY);
         Due.is("BAD_VALUE is first", x.come(100), BAD_VALUE);
@@ -297,7 +224,7 @@ public final class PromiseTests {
 
     private static void mask() {
         Due.part("5: mask");
-        CoalescedCalls x = card();
+        Card x = new Card();
         Due.is("mask(0)", x.mask(0), 1);
         Due.is("mask(2)", x.mask(2), 1);
         Due.is("masked", x.count(6), 5);
@@ -310,8 +237,8 @@ public final class PromiseTests {
         }
         Due.is("changes", x.count(12), 4);
         Due.is("masked", x.count(6), 6);
-        come(x, 0, 5);
-        come(x, 1, 5);
+        x.come(0, 5);
+        x.come(1, 5);
         x.pass(30);
         Due.is("0 has called", x.of(0, 7), 5);
         Due.is("1 has not", x.of(1, 6), 0);
@@ -325,7 +252,7 @@ public final class PromiseTests {
         Due.is("and is polled", x.pass(1), 4);
         Due.is("to its end", x.pass(1), 1);
         Due.is("then it is idle", x.of(1, 4), 0);
-        come(x, 1, 5);
+        x.come(1, 5);
         Due.is("and does not call", x.pass(50), 0);
     }
 
@@ -333,7 +260,7 @@ public final class PromiseTests {
 
     private static void call() {
         Due.part("6: call");
-        CoalescedCalls x = card();
+        Card x = new Card();
         Due.is("no frames", x.call(0), NOT_POSSIBLE);
         x.come(0);
         x.come(1);
@@ -364,8 +291,8 @@ public final class PromiseTests {
 
     private static void pass() {
         Due.part("7: pass");
-        CoalescedCalls x = card();
-        come(x, 0, 7);
+        Card x = new Card();
+        x.come(0, 7);
         x.come(1);
         Due.is("none in the first tick", x.pass(1), 0);
         Due.is("time", x.count(0), 1);
@@ -386,13 +313,13 @@ public final class PromiseTests {
         Due.is("the longest", x.of(1, 10), 11);
         Due.is("time", x.count(0), 102);
         Due.is("sum", x.pass(1), 0);
-        come(x, 5, 9);
+        x.come(5, 9);
         Due.is("in several ticks", x.pass(4), 9);
     }
 
     private static void passErrors() {
         Due.part("7: pass, errors");
-        CoalescedCalls x = card();
+        Card x = new Card();
         for (int ticks : new int[] {0, 100, -1, LEAST, MOST}) {
             Due.is("ticks", x.pass(ticks), BAD_VALUE);
         }
@@ -410,7 +337,7 @@ public final class PromiseTests {
         Due.is("to 9999", x.pass(49), 1);
         Due.is("time", x.count(0), 9999);
         Due.is("one more", x.pass(1), NOT_POSSIBLE);
-        come(x, 0, 4);
+        x.come(0, 4);
         Due.is("would does not mind", x.would(2, 0), 4);
         Due.is("takenIn neither", x.takenIn(1), 2);
         Due.is("bestCount neither", x.bestCount(0, 20, 1), 112);
@@ -418,20 +345,20 @@ public final class PromiseTests {
 
     private static void tickOrder() {
         Due.part("a tick: its order");
-        CoalescedCalls x = card();
-        come(x, 2, 4);
-        come(x, 1, 4);
+        Card x = new Card();
+        x.come(2, 4);
+        x.come(1, 4);
         x.pass(1);
         Due.is("by numbers", x.row(0), 1);
         Due.is("not by age", x.row(1), 2);
         x.set(BUDGET, 2);
-        come(x, 0, 4);
+        x.come(0, 4);
         x.pass(1);
         Due.is("1 was polled", x.of(1, 7), 2);
         Due.is("2 is the next one", x.row(0), 2);
         Due.is("1 is at the end, ahead of", x.row(1), 1);
         Due.is("the one that calls after the poll", x.row(2), 0);
-        CoalescedCalls y = card();
+        Card y = new Card();
         y.bounds(0, 1, 1);
         y.come(0);
         y.pass(1);
@@ -445,9 +372,9 @@ public final class PromiseTests {
 
     private static void rowTurns() {
         Due.part("a tick: the row turns");
-        CoalescedCalls x = card();
+        Card x = new Card();
         x.set(BUDGET, 1);
-        put(x, "f0*2;f1;f2*2");
+        x.type("f0*2;f1;f2*2");
         x.carryOut();
         x.call(0);
         x.call(1);
@@ -476,7 +403,7 @@ public final class PromiseTests {
 
     private static void waitBound() {
         Due.part("a tick: the bound of waiting");
-        CoalescedCalls x = card();
+        Card x = new Card();
         x.bounds(0, 32, 3);
         x.pass(7);
         x.come(0);
@@ -498,15 +425,15 @@ public final class PromiseTests {
     }
 
     private static int inUseAfter(int count, int frames, int follow) {
-        CoalescedCalls x = card();
+        Card x = new Card();
         x.set(FOLLOW, follow);
         x.set(RING, 32);
         x.set(BUDGET, 16);
         x.bounds(1, count, 99);
-        come(x, 1, Math.min(frames, 32));
+        x.come(1, Math.min(frames, 32));
         x.call(1);
         x.pass(1);
-        come(x, 1, Math.max(frames - 32, 0));
+        x.come(1, Math.max(frames - 32, 0));
         x.pass(9);
         Due.is("all are taken", x.of(1, 7), frames);
         Due.is("it is idle", x.of(1, 4), 0);
@@ -534,10 +461,10 @@ public final class PromiseTests {
         Due.is("32 with 16", inUseAfter(32, 16, 1), 32);
         Due.is("3 with 7, not followed", inUseAfter(3, 7, 0), 3);
         Due.is("4 with 1, not followed", inUseAfter(4, 1, 0), 4);
-        CoalescedCalls x = card();
+        Card x = new Card();
         x.set(FOLLOW, 1);
         x.bounds(0, 1, 50);
-        come(x, 0, 5);
+        x.come(0, 5);
         x.pass(2);
         Due.is("not while it is in the row", x.of(0, 2), 1);
         x.pass(1);
@@ -555,10 +482,10 @@ public final class PromiseTests {
 
     private static void of() {
         Due.part("8: of");
-        CoalescedCalls x = busy();
-        queueIs(x, 0, 2, 20, 2, 2, 1, 0, 2, 3, 0, 3, 1, 0, 10);
-        queueIs(x, 1, 4, 10, 4, 3, 1, 0, 1, 0, 3, 0, NONE, 0, 3);
-        queueIs(x, 2, 4, 10, 4, 1, 0, 1, 0, 0, 0, 0, NONE, 0, 4);
+        Card x = Card.busy();
+        x.queueIs(0, 2, 20, 2, 2, 1, 0, 2, 3, 0, 3, 1, 0, 10);
+        x.queueIs(1, 4, 10, 4, 3, 1, 0, 1, 0, 3, 0, NONE, 0, 3);
+        x.queueIs(2, 4, 10, 4, 1, 0, 1, 0, 0, 0, 0, NONE, 0, 4);
         for (int what : new int[] {-1, 13, LEAST, MOST}) {
             Due.is("what", x.of(0, what), BAD_VALUE);
         }
@@ -568,12 +495,12 @@ public final class PromiseTests {
         }
         x.set(BUDGET, 3);
         x.pass(1);
-        queueIs(x, 1, 4, 10, 4, 0, 1, 0, 1, 3, 3, 3, 3, 3, NONE);
+        x.queueIs(1, 4, 10, 4, 0, 1, 0, 1, 3, 3, 3, 3, 3, NONE);
         x.pass(1);
-        queueIs(x, 0, 2, 20, 2, 0, 0, 0, 2, 5, 0, 5, 1, 0, NONE);
+        x.queueIs(0, 2, 20, 2, 0, 0, 0, 2, 5, 0, 5, 1, 0, NONE);
         x.pass(1);
-        queueIs(x, 1, 4, 10, 4, 0, 0, 0, 1, 3, 3, 3, 3, 0, NONE);
-        CoalescedCalls y = card();
+        x.queueIs(1, 4, 10, 4, 0, 0, 0, 1, 3, 3, 3, 3, 0, NONE);
+        Card y = new Card();
         y.come(0);
         y.call(0);
         y.pass(1);
@@ -584,19 +511,19 @@ public final class PromiseTests {
 
     private static void frame() {
         Due.part("9: frame");
-        CoalescedCalls x = busy();
-        frameIs(x, 0, 0, 0, 1, 1);
-        frameIs(x, 3, 1, 0, 0, 3);
-        frameIs(x, 4, 2, 3, 0, 0);
-        frameIs(x, 6, 1, 3, 0, 0);
-        frameIs(x, 7, 1, 3, 2, NONE);
-        frameIs(x, 11, 3, 3, 0, 0);
+        Card x = Card.busy();
+        x.frameIs(0, 0, 0, 1, 1);
+        x.frameIs(3, 1, 0, 0, 3);
+        x.frameIs(4, 2, 3, 0, 0);
+        x.frameIs(6, 1, 3, 0, 0);
+        x.frameIs(7, 1, 3, 2, NONE);
+        x.frameIs(11, 3, 3, 0, 0);
         x.pass(4);
-        frameIs(x, 0, 0, 0, 1, 1);
-        frameIs(x, 3, 1, 0, 1, 3);
-        frameIs(x, 4, 2, 3, 0, 4);
-        frameIs(x, 7, 1, 3, 2, NONE);
-        frameIs(x, 11, 3, 3, 1, 1);
+        x.frameIs(0, 0, 0, 1, 1);
+        x.frameIs(3, 1, 0, 1, 3);
+        x.frameIs(4, 2, 3, 0, 4);
+        x.frameIs(7, 1, 3, 2, NONE);
+        x.frameIs(11, 3, 3, 1, 1);
         for (int frame : new int[] {-1, 12, 399, 400, LEAST, MOST}) {
             Due.is("no such frame", x.frame(frame, 0), NO_SUCH);
             Due.is("NO_SUCH is first", x.frame(frame, 4), NO_SUCH);
@@ -606,17 +533,11 @@ public final class PromiseTests {
         }
     }
 
-    private static void frameIs(CoalescedCalls x, int frame, int... want) {
-        for (int what = 0; what < 4; what++) {
-            Due.is("frame(" + frame + ", " + what + ")", x.frame(frame, what), want[what]);
-        }
-    }
-
     // ---- promise 10
 
     private static void row() {
         Due.part("10: row");
-        CoalescedCalls x = card();
+        Card x = new Card();
         Due.is("nobody", x.row(0), NO_SUCH);
         x.come(2);
         x.come(0);
@@ -634,14 +555,14 @@ public final class PromiseTests {
 
     private static void count() {
         Due.part("11: count");
-        CoalescedCalls x = busy();
-        x.put(code("f1;"));
-        countsAre(x, 3, 12, 6, 3, 3, 3, 4, 3, 4, 0, 6, 3, 5);
+        Card x = Card.busy();
+        x.put(Card.code("f1;"));
+        x.countsAre(3, 12, 6, 3, 3, 3, 4, 3, 4, 0, 6, 3, 5);
         x.set(BUDGET, 7);
         x.set(FOLLOW, 1);
         x.set(COST, 11);
         x.mask(0);
-        countsAre(x, 3, 12, 6, 3, 3, 3, 5, 3, 7, 1, 11, 3, 6);
+        x.countsAre(3, 12, 6, 3, 3, 3, 5, 3, 7, 1, 11, 3, 6);
         for (int what : new int[] {-1, 13, LEAST, MOST}) {
             Due.is("what", x.count(what), BAD_VALUE);
         }
@@ -651,7 +572,7 @@ public final class PromiseTests {
 
     private static void why() {
         Due.part("12: why");
-        CoalescedCalls x = card();
+        Card x = new Card();
         Due.is("no frames", x.why(0), 3);
         x.mask(0);
         Due.is("masked is ahead of that", x.why(0), 2);
@@ -661,7 +582,7 @@ public final class PromiseTests {
         x.mask(0);
         x.come(1);
         Due.is("too few", x.why(1), 4);
-        come(x, 1, 2);
+        x.come(1, 2);
         Due.is("three are too few", x.why(1), 4);
         x.come(1);
         Due.is("four are enough", x.why(1), 0);
@@ -682,7 +603,7 @@ public final class PromiseTests {
 
     private static void takenIn() {
         Due.part("13: takenIn");
-        CoalescedCalls x = card();
+        Card x = new Card();
         x.come(0);
         x.call(0);
         Due.is("in the next tick", x.takenIn(0), 1);
@@ -695,21 +616,21 @@ public final class PromiseTests {
         x.set(RING, 1);
         x.come(0);
         Due.is("dropped", x.takenIn(2), NOT_POSSIBLE);
-        String before = look(x);
+        String before = x.look();
         int changes = x.count(12);
         x.takenIn(0);
-        Due.holds("nothing changes", before.equals(look(x)) && changes == x.count(12));
+        Due.holds("nothing changes", before.equals(x.look()) && changes == x.count(12));
         x.pass(1);
         Due.is("taken", x.takenIn(0), NOT_POSSIBLE);
         for (int frame : new int[] {-1, 3, 400, LEAST, MOST}) {
             Due.is("no such frame", x.takenIn(frame), NO_SUCH);
         }
-        CoalescedCalls y = card();
+        Card y = new Card();
         y.set(RING, 32);
         y.set(BUDGET, 1);
-        come(y, 0, 32);
-        come(y, 1, 32);
-        come(y, 2, 32);
+        y.come(0, 32);
+        y.come(1, 32);
+        y.come(2, 32);
         Due.is("by turns", y.takenIn(95), 97);
         y.bounds(2, 32, 99);
         y.come(5);
@@ -725,8 +646,8 @@ public final class PromiseTests {
 
     private static void would() {
         Due.part("14: would");
-        CoalescedCalls x = busy();
-        String before = look(x);
+        Card x = Card.busy();
+        String before = x.look();
         Due.is("taken in 1", x.would(1, 0), 3);
         Due.is("taken in 2", x.would(2, 0), 5);
         Due.is("calls", x.would(99, 1), 0);
@@ -734,7 +655,7 @@ public final class PromiseTests {
         Due.is("rings", x.would(99, 3), 1);
         Due.is("rings in 1", x.would(1, 3), 3);
         Due.is("changes", x.count(12), 5);
-        Due.holds("nothing changes", before.equals(look(x)));
+        Due.holds("nothing changes", before.equals(x.look()));
         x.mask(2);
         Due.is("calls", x.would(99, 1), 1);
         Due.is("in 11", x.would(11, 1), 1);
@@ -756,14 +677,14 @@ public final class PromiseTests {
 
     // ---- promise 15
 
-    private static void best(CoalescedCalls x, int queue, int gap, int count, int cost) {
+    private static void best(Card x, int queue, int gap, int count, int cost) {
         Due.is("bestCount(" + queue + ", " + gap + ", 0)", x.bestCount(queue, gap, 0), count);
         Due.is("bestCount(" + queue + ", " + gap + ", 1)", x.bestCount(queue, gap, 1), cost);
     }
 
     private static void bestCount() {
         Due.part("15: bestCount");
-        CoalescedCalls x = card();
+        Card x = new Card();
         // a frame alone: it calls at once, and waits for a tick
         best(x, 0, 20, 1, 16 * (1 + 6));
         x.set(COST, 50);
@@ -793,7 +714,7 @@ public final class PromiseTests {
             Due.is("what", x.bestCount(0, 1, what), BAD_VALUE);
         }
         // the answers of the document's own test
-        CoalescedCalls y = card();
+        Card y = new Card();
         best(y, 0, 1, 4, 50);
         y.set(COST, 50);
         best(y, 0, 5, 3, 401);
@@ -801,10 +722,10 @@ public final class PromiseTests {
 
     private static void bestCountAside() {
         Due.part("15: bestCount, what does not matter");
-        CoalescedCalls x = busy();
+        Card x = Card.busy();
         x.set(RING, 16);
         x.bounds(2, 30, 10);
-        String before = look(x);
+        String before = x.look();
         int changes = x.count(12);
         x.would(1, 0);
         best(x, 2, 20, 1, 112);
@@ -812,7 +733,7 @@ public final class PromiseTests {
         best(x, 2, 20, 1, 112);
         x.would(1, 0);
         best(x, 1, 1, 4, 50);
-        Due.holds("nothing changes", before.equals(look(x)) && changes == x.count(12));
+        Due.holds("nothing changes", before.equals(x.look()) && changes == x.count(12));
         x.set(BUDGET, 1);
         x.set(COST, 50);
         x.bounds(1, 9, 99);
@@ -828,7 +749,7 @@ public final class PromiseTests {
         x.bounds(1, 9, 45);
         // 24, 12, 6, 3 and then 1: the first four take 46 ticks each, in which two frames are dropped
         best(x, 1, 17, 24, 4 * (46 + 25) + 4 * (1 + 25));
-        CoalescedCalls y = card();
+        Card y = new Card();
         y.mask(1);
         y.come(1);
         y.set(COST, 50);
@@ -841,7 +762,7 @@ public final class PromiseTests {
 
     private static void put() {
         Due.part("16: put");
-        CoalescedCalls x = card();
+        Card x = new Card();
         Due.is("no character", x.put(0), BAD_VALUE);
         Due.is("32", x.put(32), BAD_VALUE);
         Due.is("127", x.put(127), BAD_VALUE);
@@ -852,28 +773,28 @@ public final class PromiseTests {
         Due.is("a gap ahead of the first bits", x.put((long) 'f' << 56 | '1'), BAD_VALUE);
         Due.is("all bits", x.put(-1), BAD_VALUE);
         Due.is("the highest bit", x.put(Long.MIN_VALUE), BAD_VALUE);
-        Due.is("the highest bit with characters", x.put(Long.MIN_VALUE | code("1234567")), BAD_VALUE);
-        Due.is("the first of eight", x.put(code("f1;t2;m0") | 1L << 63), BAD_VALUE);
-        Due.is("a bad one inside", x.put(code("f 1")), BAD_VALUE);
+        Due.is("the highest bit with characters", x.put(Long.MIN_VALUE | Card.code("1234567")), BAD_VALUE);
+        Due.is("the first of eight", x.put(Card.code("f1;t2;m0") | 1L << 63), BAD_VALUE);
+        Due.is("a bad one inside", x.put(Card.code("f 1")), BAD_VALUE);
         Due.is("nothing was put", x.count(11), 0);
         Due.is("33", x.put(33), 1);
         Due.is("126", x.put(126), 2);
         x.wipe();
         Due.is("one", x.put('m'), 1);
-        Due.is("eight", x.put(code("1;f33*2;")), 9);
-        Due.is("two", x.put(code("t5")), 11);
+        Due.is("eight", x.put(Card.code("1;f33*2;")), 9);
+        Due.is("two", x.put(Card.code("t5")), 11);
         Due.is("in this order", x.fault(), NONE);
         Due.is("orders", x.carryOut(), 4);
         Due.is("masked", x.count(6), 2);
         Due.is("flow", x.frame(1, 0), 33);
         Due.is("time", x.count(0), 5);
         for (int n = 1; n <= 9; n++) {
-            Due.is("longer", x.put(code("abcdefgh")), 8 * n);
+            Due.is("longer", x.put(Card.code("abcdefgh")), 8 * n);
         }
         int changes = x.count(12);
-        Due.is("79", x.put(code("abcdefg")), 79);
-        Due.is("81", x.put(code("ab")), TOO_MANY);
-        Due.is("BAD_VALUE is first", x.put(code("a b")), BAD_VALUE);
+        Due.is("79", x.put(Card.code("abcdefg")), 79);
+        Due.is("81", x.put(Card.code("ab")), TOO_MANY);
+        Due.is("BAD_VALUE is first", x.put(Card.code("a b")), BAD_VALUE);
         Due.is("79 still", x.count(11), 79);
         Due.is("80", x.put('a'), 80);
         Due.is("81", x.put('a'), TOO_MANY);
@@ -884,14 +805,14 @@ public final class PromiseTests {
 
     private static void wipe() {
         Due.part("17: wipe");
-        CoalescedCalls x = card();
+        Card x = new Card();
         Due.is("empty", x.wipe(), 0);
-        put(x, "t5;f1");
+        x.type("t5;f1");
         Due.is("five", x.wipe(), 5);
         Due.is("then none", x.count(11), 0);
         Due.is("the text has gone", x.fault(), 0);
         Due.is("no change", x.count(12), 0);
-        put(x, "m1");
+        x.type("m1");
         Due.is("nothing of the old text", x.fault(), NONE);
         Due.is("two", x.wipe(), 2);
         Due.is("none", x.wipe(), 0);
@@ -900,8 +821,8 @@ public final class PromiseTests {
     // ---- promise 18
 
     private static void fault(String text, int want) {
-        CoalescedCalls x = card();
-        put(x, text);
+        Card x = new Card();
+        x.type(text);
         Due.is("fault of " + text, x.fault(), want);
         Due.is("carryOut of " + text, x.carryOut() == BAD_TEXT ? 1 : 0, want == NONE ? 0 : 1);
         Due.is("length then", x.count(11), want == NONE ? 0 : text.length());
@@ -972,8 +893,8 @@ public final class PromiseTests {
         fault("q:=1,1", 1);
         fault("f/", 1);
         fault("f:", 1);
-        CoalescedCalls x = card();
-        put(x, "m0;m1;m2;m0;m1;m2;m0;m1;m2;m0;m1;m2;m0;m1;m2;m0;m1;m2;m0;m1;m2;m0;m1;m2;m0;m1;m2");
+        Card x = new Card();
+        x.type("m0;m1;m2;m0;m1;m2;m0;m1;m2;m0;m1;m2;m0;m1;m2;m0;m1;m2;m0;m1;m2;m0;m1;m2;m0;m1;m2");
         Due.is("80 characters", x.count(11), 80);
         Due.is("without a fault", x.fault(), NONE);
         Due.is("orders", x.carryOut(), 27);
@@ -984,33 +905,33 @@ public final class PromiseTests {
 
     private static void carryOut() {
         Due.part("19: carryOut");
-        CoalescedCalls x = card();
-        put(x, "f7;f98*2;t3;q2=8,90;m1");
+        Card x = new Card();
+        x.type("f7;f98*2;t3;q2=8,90;m1");
         Due.is("orders", x.carryOut(), 6);
         Due.is("the pad is empty", x.count(11), 0);
         Due.is("one change", x.count(12), 1);
         Due.is("frames", x.count(1), 3);
-        frameIs(x, 0, 7, 0, 0, 3);
-        frameIs(x, 2, 98, 0, 0, 3);
+        x.frameIs(0, 7, 0, 0, 3);
+        x.frameIs(2, 98, 0, 0, 3);
         Due.is("time", x.count(0), 3);
-        queueIs(x, 2, 8, 90, 8);
+        x.queueIs(2, 8, 90, 8);
         Due.is("masked", x.count(6), 2);
         Due.is("empty", x.carryOut(), BAD_TEXT);
-        put(x, "f1;");
+        x.type("f1;");
         Due.is("a fault", x.carryOut(), BAD_TEXT);
         Due.is("it stays", x.count(11), 3);
         Due.is("no change", x.count(12), 1);
         Due.is("no frame", x.count(1), 3);
-        put(x, "f2*0");
+        x.type("f2*0");
         Due.is("no order of f2*0", x.carryOut(), 1);
         Due.is("a frame", x.count(1), 4);
-        put(x, "f2*0");
+        x.type("f2*0");
         Due.is("none", x.carryOut(), 0);
         Due.is("a change all the same", x.count(12), 3);
-        put(x, "f2*0;t1");
+        x.type("f2*0;t1");
         Due.is("none is no error", x.carryOut(), 1);
         Due.is("time", x.count(0), 4);
-        put(x, "m1;t12;f7*99");
+        x.type("m1;t12;f7*99");
         Due.is("orders", x.carryOut(), 101);
         Due.is("undo of all", x.undo(), 4);
         Due.is("masked again", x.count(6), 2);
@@ -1021,34 +942,34 @@ public final class PromiseTests {
 
     private static void carryOutStops() {
         Due.part("19: carryOut, errors");
-        CoalescedCalls x = card();
-        put(x, "f1;t0;f1");
+        Card x = new Card();
+        x.type("f1;t0;f1");
         Due.is("t0", x.carryOut(), 1);
         Due.is("the pad is empty", x.count(11), 0);
         Due.is("frames", x.count(1), 1);
-        put(x, "f1;q3=1,1;f1");
+        x.type("f1;q3=1,1;f1");
         Due.is("q3", x.carryOut(), 1);
-        put(x, "q0=0,1;f1");
+        x.type("q0=0,1;f1");
         Due.is("q0=0,1", x.carryOut(), 0);
-        put(x, "q0=33,1;f1");
+        x.type("q0=33,1;f1");
         Due.is("q0=33,1", x.carryOut(), 0);
-        put(x, "q0=1,0;f1");
+        x.type("q0=1,0;f1");
         Due.is("q0=1,0", x.carryOut(), 0);
         Due.is("changes", x.count(12), 5);
-        put(x, "m0;m3;f1");
+        x.type("m0;m3;f1");
         Due.is("m3", x.carryOut(), 1);
         Due.is("frames", x.count(1), 2);
-        queueIs(x, 0, 4, 10, 4);
-        put(x, "f1*99;f2*99;f3*99;f4*99;f5*99;t7");
+        x.queueIs(0, 4, 10, 4);
+        x.type("f1*99;f2*99;f3*99;f4*99;f5*99;t7");
         Due.is("up to 400", x.carryOut(), 398);
         Due.is("no tick", x.count(0), 0);
         Due.is("frames", x.count(1), 400);
-        put(x, "t99;t99;t99;t99;t99;t99;t99;t99;t99;t99;t99;t99;t99;t99;t99;t99;t99;t99;t99;t99");
+        x.type("t99;t99;t99;t99;t99;t99;t99;t99;t99;t99;t99;t99;t99;t99;t99;t99;t99;t99;t99;t99");
         Due.is("twenty", x.carryOut(), 20);
         for (int n = 0; n < 81; n++) {
             x.pass(99);
         }
-        put(x, "m0;t1;m1");
+        x.type("m0;t1;m1");
         Due.is("the bound of the time", x.carryOut(), 1);
         Due.is("time", x.count(0), 9999);
     }
@@ -1057,7 +978,7 @@ public final class PromiseTests {
 
     private static void undo() {
         Due.part("20: undo");
-        CoalescedCalls x = card();
+        Card x = new Card();
         Due.is("none", x.undo(), NOT_POSSIBLE);
         for (int n = 1; n <= 8; n++) {
             x.set(COST, n);
@@ -1079,10 +1000,10 @@ public final class PromiseTests {
         x.set(COST, 40);
         Due.is("after an undo", x.undo(), 1);
         Due.is("COST", x.count(10), 2);
-        put(x, "f1;t");
+        x.type("f1;t");
         x.save(0);
         x.come(5);
-        put(x, "3");
+        x.type("3");
         x.save(1);
         x.undo();
         Due.is("the pad stays", x.count(11), 5);
@@ -1093,7 +1014,7 @@ public final class PromiseTests {
     }
 
     /** A change, or a call that is none, by its number. */
-    private static int act(CoalescedCalls x, int kind) {
+    private static int act(Card x, int kind) {
         switch (kind) {
             case 0: return x.set(FOLLOW, 1);
             case 1: return x.bounds(0, 1, 5);
@@ -1101,7 +1022,7 @@ public final class PromiseTests {
             case 3: return x.mask(2);
             case 4: return x.call(2);
             case 5: return x.pass(30);
-            case 6: put(x, "f2*5;t9;q1=9,9;m0"); return x.carryOut();
+            case 6: x.type("f2*5;t9;q1=9,9;m0"); return x.carryOut();
             default: return x.restore(1);
         }
     }
@@ -1109,19 +1030,19 @@ public final class PromiseTests {
     private static void undoEach() {
         Due.part("20: undo of each change");
         for (int kind = 0; kind < 8; kind++) {
-            CoalescedCalls x = busy();
+            Card x = Card.busy();
             x.save(1);
             x.pass(2);
-            String before = look(x);
+            String before = x.look();
             int changes = x.count(12);
             Due.holds("act " + kind + " is done", act(x, kind) >= 0);
             Due.is("changes after " + kind, x.count(12), changes);
-            Due.holds("something is different after " + kind, !before.equals(look(x)));
+            Due.holds("something is different after " + kind, !before.equals(x.look()));
             Due.is("undo of " + kind, x.undo(), 5);
-            Due.holds("as before " + kind, before.equals(look(x)));
+            Due.holds("as before " + kind, before.equals(x.look()));
         }
-        CoalescedCalls y = card();
-        come(y, 0, 5);
+        Card y = new Card();
+        y.come(0, 5);
         y.pass(2);
         y.pass(1);
         Due.is("it has left the row", y.of(0, 11), 0);
@@ -1129,14 +1050,14 @@ public final class PromiseTests {
         Due.is("it is in the row again", y.row(0), 0);
         Due.is("taken since it called", y.of(0, 11), 4);
         Due.is("the rest", y.pass(1), 1);
-        CoalescedCalls x = busy();
+        Card x = Card.busy();
         x.undo();
         Due.is("changes", x.count(12), 4);
         Due.is("errors", x.set(4, 0) + x.bounds(3, 0, 0) + x.come(-1) + x.mask(3) + x.call(3) + x.pass(0)
                 + x.carryOut() + x.restore(0) + x.restore(2) + x.save(2),
                 3 * NO_SUCH + 5 * BAD_VALUE + BAD_TEXT + NOT_POSSIBLE);
         Due.is("record nothing", x.count(12), 4);
-        x.put(code("t1"));
+        x.put(Card.code("t1"));
         x.wipe();
         x.save(0);
         x.why(0);
@@ -1147,20 +1068,20 @@ public final class PromiseTests {
 
     private static void save() {
         Due.part("21: save");
-        CoalescedCalls x = busy();
+        Card x = Card.busy();
         Due.is("frames", x.save(0), 12);
         Due.is("no change", x.count(12), 5);
         for (int slot : new int[] {-1, 2, LEAST, MOST}) {
             Due.is("no such slot", x.save(slot), BAD_VALUE);
         }
-        String before = look(x);
+        String before = x.look();
         Due.is("the other one is empty", x.restore(1), NOT_POSSIBLE);
         x.come(0);
         Due.is("frames", x.save(1), 13);
         x.pass(9);
         x.set(RING, 9);
         Due.is("restore", x.restore(0), 12);
-        Due.holds("as saved", before.equals(look(x)));
+        Due.holds("as saved", before.equals(x.look()));
         x.come(0);
         x.come(0);
         Due.is("overwrites", x.save(0), 14);
@@ -1172,33 +1093,33 @@ public final class PromiseTests {
 
     private static void restore() {
         Due.part("22: restore");
-        CoalescedCalls x = busy();
+        Card x = Card.busy();
         for (int slot : new int[] {-1, 2, LEAST, MOST}) {
             Due.is("no such slot", x.restore(slot), BAD_VALUE);
         }
         Due.is("nothing was saved", x.restore(0), NOT_POSSIBLE);
         Due.is("errors are no changes", x.count(12), 5);
         x.save(0);
-        String saved = look(x);
-        put(x, "f1");
+        String saved = x.look();
+        x.type("f1");
         x.pass(99);
         x.mask(1);
         x.bounds(1, 3, 3);
         x.set(COST, 1);
         x.come(8);
-        String later = look(x);
+        String later = x.look();
         Due.is("changes", x.count(12), 6);
         Due.is("restore(0)", x.restore(0), 12);
-        Due.holds("as saved", saved.equals(look(x)));
+        Due.holds("as saved", saved.equals(x.look()));
         Due.is("the pad stays", x.count(11), 2);
         Due.is("the history stays", x.count(12), 6);
         Due.is("undo", x.undo(), 5);
-        Due.holds("as before", later.equals(look(x)));
+        Due.holds("as before", later.equals(x.look()));
         Due.is("the slot keeps it", x.restore(0), 12);
         x.come(8);
         Due.is("whatever comes then", x.restore(0), 12);
-        Due.holds("as saved", saved.equals(look(x)));
-        CoalescedCalls y = card();
+        Due.holds("as saved", saved.equals(x.look()));
+        Card y = new Card();
         y.come(0);
         y.save(1);
         y.pass(40);
